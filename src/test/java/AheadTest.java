@@ -109,6 +109,12 @@ public final class AheadTest {
         check.due("of several the smallest number", 1, () -> y.bestWind(1, 5));
         y.calmKettle(1, 20);
         check.due("with the kettles of now", 3, () -> y.bestWind(1, 5));
+        check.due("pointsBehind with the wind of now", 6, () -> y.pointsBehind(1, 5));
+        y.setWind(1, 1);
+        check.due("pointsBehind with the wind of now", 0, () -> y.pointsBehind(1, 5));
+        TeaRegatta z = Books.taught("bay 5,5;kettle 1,2 steams 9;"
+            + "clipper a home 2,2 noses 1 steers if wind<4 and wind>-1 then -1 else if leaf then 1 else 3;");
+        check.due("no other directions", 0, () -> z.bestWind(0, 60));
     }
 
     private static void bestWindKeepsTheForce() {
@@ -151,6 +157,10 @@ public final class AheadTest {
         y.setWind(0, 1);
         y.sail(5);
         check.due("meanPoints", 4.0 / 3.0, y::meanPoints);
+        TeaRegatta z = Books.taught("kettle 1,0 steams 9;clipper a home 0,0 noses 1 steers if leaf then 3 else 1;");
+        z.setWind(0, 1);
+        z.sail(3);
+        check.due("meanPoints of one", 6.0, z::meanPoints);
     }
 
     private static void digest() {

@@ -16,6 +16,7 @@ public final class BookTest {
         firstErrorIsTold();
         errorLeavesAll();
         allBeginsAnew();
+        manyBooks();
         check.end();
     }
 
@@ -172,6 +173,12 @@ public final class BookTest {
         ruleError(chain.repeat(7) + "3", 6 * chain.length());
         ruleFine("if if if if if if 1 then 1 else 1" + " then 1 else 1".repeat(5));
         ruleError("if if if if if if if 1 then 1 else 1" + " then 1 else 1".repeat(6), 18);
+        ruleFine("if 1 then ".repeat(6) + "1" + " else 2".repeat(6));
+        ruleError("if 1 then ".repeat(7) + "1" + " else 2".repeat(7), 60);
+        ruleFine("least(".repeat(6) + "1" + ",2)".repeat(6));
+        ruleError("least(".repeat(7) + "1" + ",2)".repeat(7), 41);
+        ruleFine("most(1,".repeat(6) + "2" + ")".repeat(6));
+        ruleError("most(1,".repeat(7) + "2" + ")".repeat(7), 46);
         ruleError(chain.repeat(5) + "if (1) then 2 else 3", 5 * chain.length() + 3);
         ruleError(chain.repeat(5) + "if 1 then ((2)) else 3", 5 * chain.length() + 10);
         ruleError(chain.repeat(5) + "if 1 then 2 else -3", 5 * chain.length() + 17);
@@ -314,12 +321,17 @@ public final class BookTest {
     }
 
     private static void allBeginsAnew() {
-        String book = "bay 5,3;kettle 1,0 steams 9;customs 2,0;clipper a home 0,0 noses 2 steers if leaf>9 then 3 else 1;";
+        String book = "bay 5,3;kettle 2,0 steams 9;customs 1,0;clipper a home 0,0 noses 2 steers if leaf then 3 else 1;";
         TeaRegatta fresh = Books.taught(book);
         TeaRegatta x = Books.taught(book);
         x.setWind(2, 3);
-        x.sail(60);
+        x.sail(57);
         x.calmKettle(0, 11);
+        check.due("points ahead of it", true, () -> x.pointsOf(0) > 0);
+        check.due("sips ahead of it", true, () -> x.sipsOf(0) > 0);
+        check.due("visits ahead of it", true, () -> x.visitsTo(0) > 0);
+        check.due("leaf ahead of it", true, () -> x.leafOf(0) > 0);
+        check.due("way ahead of it", true, () -> x.wayOf(0) > 0);
         check.due("teach", 0, () -> Books.teach(x, book));
         check.due("hour", 0, x::hour);
         check.due("windDirection", 0, x::windDirection);
@@ -333,13 +345,23 @@ public final class BookTest {
         check.due("sipsOf", 0, () -> x.sipsOf(0));
         check.due("digest", fresh.digest(), x::digest);
         check.due("teach", 0, () -> Books.teach(x, "kettle 5,5 steams 2;"));
-        check.due("the customs of the book before are gone", false, () -> x.hasCustoms(2, 0));
-        check.due("the kettle of the book before is gone", false, () -> x.hasSteam(1, 0));
+        check.due("the customs of the book before are gone", false, () -> x.hasCustoms(1, 0));
+        check.due("the kettle of the book before is gone", false, () -> x.hasSteam(2, 0));
         check.due("kettles", 1, x::kettles);
         check.due("clippers", 0, x::clippers);
         check.due("columns", 6, x::columns);
         check.due("teach of nothing", 0, x::teach);
         check.due("kettles", 0, x::kettles);
         check.due("digest", new TeaRegatta().digest(), x::digest);
+    }
+
+    /** What one book fills, the next one has anew. */
+    private static void manyBooks() {
+        TeaRegatta x = new TeaRegatta();
+        for (int times = 1; times <= 9; times++) {
+            int number = times;
+            check.due("teach", 0, () -> Books.teach(x, CLIPPER + number + "+1".repeat(190) + ";"));
+            check.due("ruleTells of book " + number, number + 190, () -> x.ruleTells(0));
+        }
     }
 }

@@ -16,6 +16,7 @@ public final class SailTest {
         hoursOfSail();
         jettison();
         leader();
+        sixOfAll();
         check.end();
     }
 
@@ -312,5 +313,30 @@ public final class SailTest {
         y.setWind(0, 1);
         y.sail(3);
         check.due("the most points", 1, y::leader);
+        TeaRegatta z = Books.taught("clipper a home 0,0 noses 1 steers -1;");
+        check.due("the only one", 0, z::leader);
+    }
+
+    private static void sixOfAll() {
+        StringBuilder book = new StringBuilder();
+        for (int number = 0; number < 6; number++) {
+            book.append("kettle ").append(number).append(",1 steams 9;customs ").append(number).append(",3;");
+            book.append("clipper ").append((char) ('a' + number)).append(" home ").append(number).append(",0 noses 2");
+            book.append(" steers if leaf then 0 else ").append(number < 5 ? -1 : 2).append(";");
+        }
+        TeaRegatta x = Books.taught(book.toString());
+        x.setWind(0, 1);
+        check.due("hoursUntilPoints", 3, () -> x.hoursUntilPoints(5));
+        check.due("sail", 6, () -> x.sail(3));
+        check.due("leader", 5, x::leader);
+        check.due("meanPoints", 1.0, x::meanPoints);
+        for (int number = 0; number < 6; number++) {
+            int n = number;
+            check.due("pointsOf " + n, n == 5 ? 6 : 0, () -> x.pointsOf(n));
+            check.due("columnOf " + n, n, () -> x.columnOf(n));
+            check.due("rowOf " + n, 0, () -> x.rowOf(n));
+            check.due("becalmedFor " + n, n == 5 ? 3 : 0, () -> x.becalmedFor(n));
+            check.due("hasCustoms " + n, true, () -> x.hasCustoms(n, 3));
+        }
     }
 }
