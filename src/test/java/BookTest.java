@@ -321,11 +321,11 @@ public final class BookTest {
     }
 
     private static void allBeginsAnew() {
-        String book = "bay 5,3;kettle 2,0 steams 9;customs 1,0;clipper a home 0,0 noses 2 steers if leaf then 3 else 1;";
+        String book = "bay 3,3;kettle 2,0 steams 9;customs 1,0;clipper a home 0,0 noses 2 steers if leaf then 3 else 1;";
         TeaRegatta fresh = Books.taught(book);
         TeaRegatta x = Books.taught(book);
         x.setWind(2, 3);
-        x.sail(57);
+        x.sail(8);
         x.calmKettle(0, 11);
         check.due("points ahead of it", true, () -> x.pointsOf(0) > 0);
         check.due("sips ahead of it", true, () -> x.sipsOf(0) > 0);
