@@ -919,7 +919,7 @@ public final class TeaRegatta {
             tokens = source;
         }
 
-        boolean readRule(Rules rules, int depth) {
+        private boolean readRule(Rules rules, int depth) {
             if (tokens.kindHere() != IF) {
                 return readJoined(rules, LEVEL_OR, depth);
             }
