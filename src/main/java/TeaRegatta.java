@@ -1,5 +1,5 @@
 /**
- * A regatta of tea clippers by aroma. The promises that the comments name are those of DOC.md.
+ * A regatta of tea clippers by aroma; what each call answers stands in DOC.md.
  *
  * <p>All rows are made in the constructors and used again, so that no call makes an object (but for
  * an exception that it throws).
