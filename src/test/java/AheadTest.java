@@ -1,3 +1,5 @@
+import java.math.BigInteger;
+
 /** Promises 35 to 39: what would be, the mean points and the digest. */
 public final class AheadTest {
     private static final Check check = new Check();
@@ -5,28 +7,61 @@ public final class AheadTest {
         + "clipper a home 0,0 noses 1 steers if leaf then 3 else 1;clipper b home 1,1 noses 1 steers -1;";
 
     public static void main(String[] args) {
-        pointsBehind();
-        hoursUntilPoints();
-        hoursUntilPointsAtMost120();
-        bestWind();
-        bestWindKeepsTheForce();
-        wrongHours();
-        meanPoints();
-        digest();
+        check.sentence("Returns its points behind them, if nothing else is done", AheadTest::pointsBehind);
+        check.sentence("pointsBehind (nothing is changed)",
+            () -> nothingIsChanged("pointsBehind", (x, clipper) -> x.pointsBehind(clipper, 60)));
+        check.sentence("Returns behind how many hours it has more points than now for the first time",
+            AheadTest::hoursUntilPoints);
+        check.sentence("at most 120; -1 if not by then", AheadTest::hoursUntilPointsAtMost120);
+        check.sentence("hoursUntilPoints (nothing is changed)",
+            () -> nothingIsChanged("hoursUntilPoints", (x, clipper) -> x.hoursUntilPoints(clipper)));
+        check.sentence("so that a clipper has the most points behind some hours", AheadTest::bestWind);
+        check.sentence("with the force of now", AheadTest::bestWindKeepsTheForce);
+        check.sentence("Returns this direction, of several the smallest number", AheadTest::bestWindOfSeveral);
+        check.sentence("bestWind (nothing is changed)",
+            () -> nothingIsChanged("bestWind", (x, clipper) -> x.bestWind(clipper, 60)));
+        check.sentence("Returns the mean points of all clippers", AheadTest::meanPoints);
+        check.sentence("0 without any", AheadTest::meanPointsWithoutAny);
+        check.sentence("A number d starts with 1901; for each of the following numbers x, d becomes d * 31 + x",
+            AheadTest::digest);
+        check.sentence("which wraps around as a 64-bit integer", AheadTest::digestWraps);
         check.end();
+    }
+
+    private interface OfClipper {
+        int ask(TeaRegatta x, int clipper);
+    }
+
+    /** All stands as before, and goes on as it does for another one that was not asked. */
+    private static void nothingIsChanged(String call, OfClipper asked) {
+        TeaRegatta x = Books.taught(VOYAGE);
+        TeaRegatta other = Books.taught(VOYAGE);
+        for (int force = 0; force <= 3; force++) {
+            x.setWind(3 - force, force);
+            other.setWind(3 - force, force);
+            String before = Books.standing(other);
+            asked.ask(x, 0);
+            asked.ask(x, 1);
+            check.due("what stands behind " + call, before, () -> Books.standing(x));
+            check.due("sail behind " + call, other.sail(5), () -> x.sail(5));
+            check.due("calmKettle behind " + call, other.calmKettle(0, 4), () -> x.calmKettle(0, 4));
+        }
+        Books.feed(x, 0, "bay 4,4;");
+        asked.ask(x, 0);
+        check.due("the tape behind " + call, Books.ARGUMENT, () -> x.trim(9));
+        check.due("teach behind " + call, 0, x::teach);
+        check.due("columns behind " + call, 4, x::columns);
     }
 
     private static void pointsBehind() {
         TeaRegatta x = Books.taught(VOYAGE);
         x.setWind(0, 1);
-        long digest = x.digest();
         check.due("pointsBehind 1", 0, () -> x.pointsBehind(0, 1));
         check.due("pointsBehind 4", 0, () -> x.pointsBehind(0, 4));
         check.due("pointsBehind 5", 4, () -> x.pointsBehind(0, 5));
         check.due("pointsBehind 9", 4, () -> x.pointsBehind(0, 9));
         check.due("pointsBehind 10", 8, () -> x.pointsBehind(0, 10));
         check.due("of the other one", 0, () -> x.pointsBehind(1, 60));
-        check.due("digest", digest, x::digest);
         x.sail(4);
         check.due("pointsBehind 1", 4, () -> x.pointsBehind(0, 1));
         x.sail(1);
@@ -45,15 +80,12 @@ public final class AheadTest {
     private static void hoursUntilPoints() {
         TeaRegatta x = Books.taught(VOYAGE);
         x.setWind(0, 1);
-        long digest = x.digest();
         check.due("hoursUntilPoints", 5, () -> x.hoursUntilPoints(0));
         check.due("never", -1, () -> x.hoursUntilPoints(1));
-        check.due("digest", digest, x::digest);
         x.sail(4);
         check.due("hoursUntilPoints", 1, () -> x.hoursUntilPoints(0));
         x.sail(1);
         check.due("more than now", 5, () -> x.hoursUntilPoints(0));
-        check.due("without clippers", Books.OUT_OF_BOUNDS, () -> new TeaRegatta().hoursUntilPoints(0));
     }
 
     private static TeaRegatta homeLate() {
@@ -96,12 +128,10 @@ public final class AheadTest {
             int d = direction;
             TeaRegatta x = Books.taught("bay 5,5;" + kettles[direction] + clippers);
             x.setWind((direction + 1) % 4, 1);
-            long digest = x.digest();
             check.due("bestWind", d, () -> x.bestWind(1, 3));
             check.due("bestWind", d, () -> x.bestWind(1, 60));
             check.due("too early for points", 0, () -> x.bestWind(1, 2));
             check.due("of the one that stays", 0, () -> x.bestWind(0, 60));
-            check.due("digest", digest, x::digest);
             check.due("windDirection", (d + 1) % 4, x::windDirection);
         }
         TeaRegatta y = Books.taught("bay 5,5;" + kettles[3] + kettles[1] + clippers);
@@ -133,14 +163,29 @@ public final class AheadTest {
         check.due("with a force of 2", 2, () -> y.bestWind(0, 60));
     }
 
-    private static void wrongHours() {
-        TeaRegatta x = Books.taught(VOYAGE);
-        for (int hours : new int[] {0, -1, 61, 120, Integer.MAX_VALUE, Integer.MIN_VALUE}) {
-            check.due("pointsBehind " + hours, Books.ARGUMENT, () -> x.pointsBehind(0, hours));
-            check.due("bestWind " + hours, Books.ARGUMENT, () -> x.bestWind(1, hours));
-            check.due("pointsBehind of no clipper", Books.OUT_OF_BOUNDS, () -> x.pointsBehind(2, hours));
-            check.due("bestWind of no clipper", Books.OUT_OF_BOUNDS, () -> x.bestWind(-1, hours));
+    /** Kettles round a clipper that goes where the wind blows and back: some of the directions win 6, the others none. */
+    private static void bestWindOfSeveral() {
+        String[] kettles = {"kettle 2,1 steams 9;", "kettle 3,2 steams 9;", "kettle 2,3 steams 9;", "kettle 1,2 steams 9;"};
+        for (int some = 0; some < 16; some++) {
+            StringBuilder book = new StringBuilder("bay 5,5;");
+            for (int direction = 3; direction >= 0; direction--) {
+                book.append((some >> direction & 1) != 0 ? kettles[direction] : "");
+            }
+            book.append("clipper a home 2,2 noses 1 steers if leaf then wind+2 else wind;");
+            int want = some == 0 ? 0 : Integer.numberOfTrailingZeros(some);
+            for (int wind = 0; wind < 4; wind++) {
+                TeaRegatta x = Books.taught(book.toString());
+                x.setWind(wind, 1);
+                check.due("bestWind of " + book, want, () -> x.bestWind(0, 4));
+                check.due("too early for points", 0, () -> x.bestWind(0, 2));
+            }
         }
+        // All of the four win, and to the south it waits for more leaf than elsewhere.
+        TeaRegatta y = Books.taught("bay 5,5;" + String.join("", kettles)
+            + "clipper a home 2,2 noses 1 steers if leaf=0 then wind else if wind=2 and hour<9 then -1 else wind+2;");
+        y.setWind(1, 3);
+        check.due("6 of each", 0, () -> y.bestWind(0, 6));
+        check.due("the most of several", 2, () -> y.bestWind(0, 12));
     }
 
     private static void meanPoints() {
@@ -163,46 +208,76 @@ public final class AheadTest {
         check.due("meanPoints of one", 6.0, z::meanPoints);
     }
 
-    private static void digest() {
-        long bare = 1901;
-        for (int x : new int[] {6, 6, 0, 0, 0, 0, 0}) {
-            bare = bare * 31 + x;
-        }
-        for (int cell = 0; cell < 36; cell++) {
-            bare = bare * 31;
-        }
-        long want = bare;
-        check.due("digest of a new object", want, () -> new TeaRegatta().digest());
-        TeaRegatta x = Books.taught(VOYAGE + "kettle 0,2 steams 30;clipper c home 2,2 noses 4 steers north-2*east-hour;");
-        x.setWind(1, 2);
-        for (int hour = 0; hour < 30; hour++) {
-            check.due("digest at " + hour, digestOf(x), x::digest);
-            x.sail(1);
-        }
-        x.calmKettle(1, 20);
-        check.due("digest", digestOf(x), x::digest);
+    private static void meanPointsWithoutAny() {
+        check.due("meanPoints of a new object", 0.0, () -> new TeaRegatta().meanPoints());
+        TeaRegatta x = Books.taught("kettle 1,1 steams 9;");
+        check.due("meanPoints without clippers", 0.0, x::meanPoints);
+        x.sail(60);
+        check.due("meanPoints without clippers", 0.0, x::meanPoints);
+        check.due("meanPoints of one without points", 0.0, () -> Books.taught(Books.CLIPPER + "1;").meanPoints());
+        TeaRegatta y = Books.taught("bay 3,3;kettle 1,0 steams 9;clipper a home 0,0 noses 1 steers if leaf then 3 else 1;");
+        y.setWind(0, 1);
+        y.sail(3);
+        check.due("meanPoints of one with points", 6.0, y::meanPoints);
+        y.teach();
+        check.due("meanPoints without clippers again", 0.0, y::meanPoints);
     }
 
-    private static long digestOf(TeaRegatta x) {
-        long d = 1901;
-        for (int number : new int[] {x.columns(), x.rows(), x.kettles(), x.clippers(), x.windDirection(),
-            x.windForce(), x.hour()}) {
-            d = d * 31 + number;
-        }
-        for (int row = 0; row < x.rows(); row++) {
-            for (int column = 0; column < x.columns(); column++) {
-                d = d * 31 + x.aromaAt(column, row);
+    private static void digest() {
+        String book = VOYAGE + "kettle 0,2 steams 30;clipper c home 2,2 noses 4 steers north-2*east-hour;";
+        for (int hours = 0; hours <= 30; hours++) {
+            TeaRegatta x = Books.taught(book);
+            x.setWind(1, 2);
+            if (hours > 0) {
+                x.sail(hours);
             }
+            check.due("digest at " + hours, digestOf(x).longValue(), x::digest);
+            x.calmKettle(1, 20);
+            check.due("digest with a calm at " + hours, digestOf(x).longValue(), x::digest);
         }
-        for (int kettle = 0; kettle < x.kettles(); kettle++) {
-            d = (d * 31 + x.becalmedFor(kettle)) * 31 + x.visitsTo(kettle);
+    }
+
+    /** Without a wrap it has more than 64 bits, even in the smallest bay. */
+    private static void digestWraps() {
+        BigInteger most = BigInteger.valueOf(Long.MAX_VALUE);
+        for (String book : new String[] {"bay 3,3;", "", "bay 12,12;", "bay 3,3;" + Books.CLIPPER + Books.LEAST_NUMBER + ";",
+            "bay 3,3;" + Books.CLIPPER + Books.MOST_NUMBER + ";"}) {
+            TeaRegatta x = Books.taught(book);
+            BigInteger d = digestOf(x);
+            check.due("digest without a wrap is too great", true, () -> d.compareTo(most) > 0);
+            check.due("digest of " + book, d.longValue(), x::digest);
         }
-        for (int clipper = 0; clipper < x.clippers(); clipper++) {
+        // 1901, then 6, 6, 0, 0, 0, 0, 0 and 36 cells without aroma.
+        BigInteger bare = BigInteger.valueOf((1901L * 31 + 6) * 31 + 6).multiply(BigInteger.valueOf(31).pow(41));
+        check.due("digest of a new object", bare.longValue(), () -> new TeaRegatta().digest());
+    }
+
+    /** As it would be without a wrap. */
+    private static BigInteger digestOf(TeaRegatta x) {
+        BigInteger d = BigInteger.valueOf(1901);
+        int columns = x.columns();
+        int rows = x.rows();
+        int kettles = x.kettles();
+        int clippers = x.clippers();
+        for (int number : new int[] {columns, rows, kettles, clippers, x.windDirection(), x.windForce(), x.hour()}) {
+            d = with(d, number);
+        }
+        for (int cell = 0; cell < columns * rows; cell++) {
+            d = with(d, x.aromaAt(cell % columns, cell / columns));
+        }
+        for (int kettle = 0; kettle < kettles; kettle++) {
+            d = with(with(d, x.becalmedFor(kettle)), x.visitsTo(kettle));
+        }
+        for (int clipper = 0; clipper < clippers; clipper++) {
             for (int number : new int[] {x.columnOf(clipper), x.rowOf(clipper), x.leafOf(clipper), x.wayOf(clipper),
                 x.pointsOf(clipper), x.sipsOf(clipper), x.ruleTells(clipper)}) {
-                d = d * 31 + number;
+                d = with(d, number);
             }
         }
         return d;
+    }
+
+    private static BigInteger with(BigInteger d, int x) {
+        return d.multiply(BigInteger.valueOf(31)).add(BigInteger.valueOf(x));
     }
 }

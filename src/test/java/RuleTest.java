@@ -1,26 +1,35 @@
 /** Promises 26 to 29: what clippers smell, what their rules tell and where they steer. */
 public final class RuleTest {
     private static final Check check = new Check();
+    private static final String MOST = Books.MOST_NUMBER;
+    private static final String LEAST = Books.LEAST_NUMBER;
 
     public static void main(String[] args) {
-        numbers();
-        wrapping();
-        logic();
-        precedence();
-        measures();
-        smells();
-        best();
-        steers();
-        rulesOfTheirOwn();
+        check.sentence("Its rule tells a number", RuleTest::numbers);
+        check.sentence("or and and tell 1 or 0, by whether one of both, or both, are not 0; a compare likewise",
+            RuleTest::logic);
+        check.sentence("if that behind if is not 0", RuleTest::aroundZero);
+        check.sentence("least and most the smaller and the greater one", RuleTest::leastAndMost);
+        check.sentence("sum = product { sign product }", RuleTest::precedence);
+        check.sentence("north, east, south and west are what it smells there", RuleTest::measures);
+        check.sentence("here is the aroma at its cell (with noses or without)", RuleTest::here);
+        check.sentence("What it smells in a direction is the aroma at the next cell there", RuleTest::smells);
+        check.sentence("but no more than 5 for each nose", RuleTest::fiveForEachNose);
+        check.sentence("0, if there is no such cell", RuleTest::noSuchCell);
+        check.sentence("best the direction in which it smells the most", RuleTest::best);
+        check.sentence("of several the smallest number", RuleTest::bestOfSeveral);
+        check.sentence("It steers to the direction that is the remainder of this number by 4", RuleTest::steers);
+        check.sentence("with a number less than 0 it stays", RuleTest::lessThanZero);
+        check.sentence("clippers, each with a rule by which it steers", RuleTest::rulesOfTheirOwn);
         check.end();
     }
 
     private static TeaRegatta steeredBy(String rule) {
-        return Books.taught("bay 3,3;clipper a home 1,1 noses 1 steers " + rule + ";");
+        return Books.taught(Books.CLIPPER + rule + ";");
     }
 
     private static void tells(String rule, int want) {
-        check.due("ruleTells of " + rule, want, () -> steeredBy(rule).ruleTells(0));
+        Books.tells(check, rule, want);
     }
 
     private static void numbers() {
@@ -33,36 +42,9 @@ public final class RuleTest {
         tells("1-2", -1);
         tells("7*6", 42);
         tells("7/2", 3);
-        tells("-7/2", -3);
-        tells("7/-2", -3);
-        tells("-7/-2", 3);
         tells("7%4", 3);
-        tells("-7%4", -3);
-        tells("7%-4", 3);
-        tells("7/0", 0);
-        tells("7%0", 0);
-        tells("0/0", 0);
-        tells("-7/0", 0);
-        tells("least(3,-4)", -4);
-        tells("least(-4,3)", -4);
-        tells("most(3,-4)", 3);
-        tells("most(-4,3)", 3);
         tells("least(2,2)+most(2,2)", 4);
         tells("least(7/0,not 0)-2147%10*0+most(3,hour)-4*leaf", 3);
-    }
-
-    private static void wrapping() {
-        String least = "32*32*32*32*32*32*2";
-        tells(least, Integer.MIN_VALUE);
-        tells(least + "-1", Integer.MAX_VALUE);
-        tells("(" + least + "-1)+1", Integer.MIN_VALUE);
-        tells("-(" + least + ")", Integer.MIN_VALUE);
-        tells("(" + least + ")/-1", Integer.MIN_VALUE);
-        tells("(" + least + ")%-1", 0);
-        tells("9999*9999*9999", (int) (9999L * 9999L * 9999L));
-        tells("(" + least + ")<(" + least + "-1)", 1);
-        tells("least(" + least + "," + least + "-1)", Integer.MIN_VALUE);
-        tells("most(" + least + "," + least + "-1)", Integer.MAX_VALUE);
     }
 
     private static void logic() {
@@ -99,6 +81,41 @@ public final class RuleTest {
         tells("if 0 then 5 else 6+1", 7);
         tells("if 0 or 1 then 5 else 6", 5);
         tells("(if 1 then 5 else 6)*2", 10);
+    }
+
+    /** Each sign between small numbers on both sides of one another and of 0. */
+    private static void aroundZero() {
+        for (int left = -2; left <= 2; left++) {
+            tells("not " + left, left == 0 ? 1 : 0);
+            tells("if " + left + " then 5 else 6", left != 0 ? 5 : 6);
+            for (int right = -2; right <= 2; right++) {
+                tells(left + "<" + right, left < right ? 1 : 0);
+                tells(left + ">" + right, left > right ? 1 : 0);
+                tells(left + "=" + right, left == right ? 1 : 0);
+                tells(left + " or " + right, left != 0 || right != 0 ? 1 : 0);
+                tells(left + " and " + right, left != 0 && right != 0 ? 1 : 0);
+            }
+        }
+        tells(LEAST + "<" + MOST, 1);
+        tells(MOST + "<" + LEAST, 0);
+        tells(LEAST + ">" + MOST, 0);
+        tells(MOST + ">" + LEAST, 1);
+        tells(LEAST + "=" + MOST, 0);
+        tells("not " + LEAST, 0);
+        tells("if " + LEAST + " then 5 else 6", 5);
+    }
+
+    private static void leastAndMost() {
+        for (int left = -2; left <= 2; left++) {
+            for (int right = -2; right <= 2; right++) {
+                tells("least(" + left + "," + right + ")", left < right ? left : right);
+                tells("most(" + left + "," + right + ")", left < right ? right : left);
+            }
+        }
+        tells("least(" + LEAST + "," + MOST + ")", Integer.MIN_VALUE);
+        tells("least(" + MOST + "," + LEAST + ")", Integer.MIN_VALUE);
+        tells("most(" + LEAST + "," + MOST + ")", Integer.MAX_VALUE);
+        tells("most(" + MOST + "," + LEAST + ")", Integer.MAX_VALUE);
     }
 
     private static void precedence() {
@@ -160,24 +177,17 @@ public final class RuleTest {
         check.due("all", 1723, () -> y.ruleTells(3));
     }
 
-    private static void smells() {
+    private static void here() {
         for (int noses = 1; noses <= 4; noses++) {
-            TeaRegatta x = Books.taught("bay 3,3;kettle 1,1 steams 19;clipper a home 1,1 noses " + noses + " steers 1;"
-                + "clipper b home 0,0 noses " + noses + " steers north*100+west;");
-            int most = 5 * noses;
-            for (int direction = 0; direction < 4; direction++) {
-                int d = direction;
-                check.due("smells " + d, Math.min(17, most), () -> x.smells(0, d));
-            }
-            check.due("smells to the edge", 0, () -> x.smells(1, 0));
-            check.due("smells to the edge", 0, () -> x.smells(1, 3));
-            check.due("smells within", Math.min(17, most), () -> x.smells(1, 1));
-            check.due("rule at the edge", 0, () -> x.ruleTells(1));
-            check.due("smells -1", Books.OUT_OF_BOUNDS, () -> x.smells(0, -1));
-            check.due("smells 4", Books.OUT_OF_BOUNDS, () -> x.smells(0, 4));
-            check.due("smells MAX", Books.OUT_OF_BOUNDS, () -> x.smells(0, Integer.MAX_VALUE));
-            check.due("smells MIN", Books.OUT_OF_BOUNDS, () -> x.smells(0, Integer.MIN_VALUE));
+            String book = "kettle 2,2 steams 30;clipper a home 2,2 noses " + noses + " steers here;";
+            check.due("here on a kettle", 30, () -> Books.taught(book).ruleTells(0));
+            check.due("here at its home, far away", 22,
+                () -> Books.taught(book.replace("home 2,2", "home 0,0")).ruleTells(0));
         }
+        check.due("here without a kettle", 0, () -> Books.taught(Books.CLIPPER + "here;").ruleTells(0));
+    }
+
+    private static void smells() {
         TeaRegatta y = Books.taught("bay 3,3;kettle 1,1 steams 12;clipper a home 2,2 noses 4 steers 1;");
         check.due("smells north", 10, () -> y.smells(0, 0));
         check.due("smells to the east edge", 0, () -> y.smells(0, 1));
@@ -189,6 +199,47 @@ public final class RuleTest {
         y.setWind(2, 1);
         check.due("smells north", 8, () -> y.smells(0, 0));
         check.due("smells west", 12, () -> y.smells(0, 3));
+    }
+
+    /** One less than 5 for each nose, just that and one more, all from one kettle and from two. */
+    private static void fiveForEachNose() {
+        for (int noses = 1; noses <= 4; noses++) {
+            int most = 5 * noses;
+            for (int aroma = most - 2; aroma <= most + 2; aroma++) {
+                int want = Math.min(aroma, most);
+                String clipper = "clipper a home 1,1 noses " + noses + " steers east;";
+                TeaRegatta x = Books.taught("bay 3,3;kettle 2,1 steams " + aroma + ";" + clipper);
+                check.due("smells of " + aroma + " with noses " + noses, want, () -> x.smells(0, 1));
+                check.due("east of " + aroma + " with noses " + noses, want, () -> x.ruleTells(0));
+                TeaRegatta y = Books.taught("bay 3,3;kettle 2,1 steams " + (aroma - 1) + ";kettle 2,0 steams 3;" + clipper);
+                check.due("smells of " + aroma + " with noses " + noses, want, () -> y.smells(0, 1));
+            }
+            TeaRegatta z = Books.taught("bay 3,3;kettle 1,1 steams 30;clipper a home 1,1 noses " + noses + " steers 1;");
+            for (int direction = 0; direction < 4; direction++) {
+                int d = direction;
+                check.due("smells " + d, most, () -> z.smells(0, d));
+            }
+        }
+    }
+
+    /** At each cell of a bay with aroma everywhere: beyond its edges there is nothing to smell. */
+    private static void noSuchCell() {
+        String[] measures = {"north", "east", "south", "west"};
+        for (int cell = 0; cell < 12; cell++) {
+            int column = cell % 4;
+            int row = cell / 4;
+            boolean[] there = {row > 0, column < 3, row < 2, column > 0};
+            for (int direction = 0; direction < 4; direction++) {
+                int d = direction;
+                TeaRegatta x = Books.taught("bay 4,3;kettle 1,1 steams 30;clipper a home " + column + "," + row
+                    + " noses 1 steers " + measures[direction] + ";");
+                for (int wind = 0; wind < 4; wind++) {
+                    x.setWind(wind, wind);
+                    check.due("smells " + d + " at " + column + "," + row, there[d] ? 5 : 0, () -> x.smells(0, d));
+                    check.due(measures[d] + " at " + column + "," + row, there[d] ? 5 : 0, () -> x.ruleTells(0));
+                }
+            }
+        }
     }
 
     private static void best() {
@@ -208,16 +259,34 @@ public final class RuleTest {
             + "clipper a home 0,0 noses 1 steers best;").ruleTells(0));
     }
 
+    /** Kettles round a clipper that smells 4 of some of them and nothing or 3 of the others. */
+    private static void bestOfSeveral() {
+        String[] kettles = {"kettle 2,1 steams ", "kettle 3,2 steams ", "kettle 2,3 steams ", "kettle 1,2 steams "};
+        String clipper = "clipper a home 2,2 noses 1 steers best;";
+        for (int some = 0; some < 16; some++) {
+            StringBuilder only = new StringBuilder("bay 5,5;");
+            StringBuilder all = new StringBuilder("bay 5,5;");
+            for (int direction = 3; direction >= 0; direction--) {
+                boolean most = (some >> direction & 1) != 0;
+                only.append(most ? kettles[direction] + "4;" : "");
+                all.append(kettles[direction]).append(most ? "4;" : "3;");
+            }
+            int want = some == 0 ? 0 : Integer.numberOfTrailingZeros(some);
+            check.due("best of " + only, want, () -> Books.taught(only + clipper).ruleTells(0));
+            check.due("best of " + all, want, () -> Books.taught(all + clipper).ruleTells(0));
+        }
+        check.due("best of all when none smells", 0, () -> Books.taught(clipper).ruleTells(0));
+        check.due("best of all with a nose", 0, () -> Books.taught("kettle 2,2 steams 30;" + clipper).ruleTells(0));
+    }
+
     private static void steers() {
         for (int number = 0; number < 12; number++) {
             TeaRegatta x = steeredBy("" + number);
             check.due("wouldStay of " + number, false, () -> x.wouldStay(0));
             check.due("steersTo of " + number, number % 4, () -> x.steersTo(0));
-            TeaRegatta y = steeredBy("-" + (number + 1));
-            check.due("wouldStay of less than 0", true, () -> y.wouldStay(0));
-            check.due("steersTo of less than 0", Books.STATE, () -> y.steersTo(0));
         }
         check.due("steersTo of 9999", 3, () -> steeredBy("9999").steersTo(0));
+        check.due("steersTo of the greatest number", 3, () -> steeredBy(MOST).steersTo(0));
         TeaRegatta x = steeredBy("hour-2");
         check.due("wouldStay now", true, () -> x.wouldStay(0));
         x.sail(2);
@@ -225,6 +294,25 @@ public final class RuleTest {
         check.due("steersTo now", 0, () -> x.steersTo(0));
         x.sail(3);
         check.due("steersTo now", 3, () -> x.steersTo(0));
+    }
+
+    private static void lessThanZero() {
+        for (String rule : new String[] {"-1", "-2", "-3", "-4", "-5", "-8", "-9999", LEAST, MOST + "+1"}) {
+            TeaRegatta x = steeredBy(rule);
+            check.due("wouldStay of " + rule, true, () -> x.wouldStay(0));
+            check.due("steersTo of " + rule, Books.STATE, () -> x.steersTo(0));
+            x.setWind(0, 1);
+            x.sail(1);
+            check.due("it stays by " + rule, true, () -> x.isHome(0));
+        }
+        for (String rule : new String[] {"0", "-0", "1-1", "4", LEAST + "*2"}) {
+            TeaRegatta x = steeredBy(rule);
+            check.due("wouldStay of " + rule, false, () -> x.wouldStay(0));
+            check.due("steersTo of " + rule, 0, () -> x.steersTo(0));
+            x.setWind(0, 1);
+            x.sail(1);
+            check.due("it moves by " + rule, 0, () -> x.rowOf(0));
+        }
     }
 
     private static void rulesOfTheirOwn() {

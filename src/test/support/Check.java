@@ -6,6 +6,19 @@ final class Check {
 
     private int checked = 0;
     private int wrong = 0;
+    private String sentence = "";
+
+    /** What the test looks at is due by this sentence of the document; it has to look at something. */
+    void sentence(String words, Runnable test) {
+        int before = checked;
+        sentence = "\"" + words + "\": ";
+        test.run();
+        if (checked == before) {
+            wrong++;
+            System.out.println(sentence + "no answer looked at");
+        }
+        sentence = "";
+    }
 
     /** The answer is due, or, if the text starts with "throws.", an exception of just this class. */
     void due(String what, Object want, Call call) {
@@ -18,7 +31,7 @@ final class Check {
         checked++;
         if (!got.equals(want)) {
             wrong++;
-            System.out.println(what + " answered " + got + ", due is " + want);
+            System.out.println(sentence + what + " answered " + got + ", due is " + want);
         }
     }
 
