@@ -32,9 +32,10 @@ public final class FaceTest {
     };
 
     public static void main(String[] args) {
-        face();
-        classesInside();
-        callsMakeNothing();
+        check.sentence("LANGUAGE.md 1: the public constructor, methods and constants of the document and no other",
+            FaceTest::face);
+        check.sentence("LANGUAGE.md 2 and 11: static nested classes, at most some twelve", FaceTest::classesInside);
+        check.sentence("LANGUAGE.md 12: What a run makes is counted: keep it small", FaceTest::callsMakeNothing);
         check.end();
     }
 
@@ -97,11 +98,11 @@ public final class FaceTest {
         bytesMade();
         long asking = bytesMade() - before;
         long start = bytesMade();
-        for (int times = 0; times < 20; times++) {
+        for (int times = 0; times < 9; times++) {
             everyCall(x, book);
         }
         long made = bytesMade() - start - asking;
-        check.due("bytes that calls make: " + made, true, () -> made < 20_000);
+        check.due("bytes that calls make: " + made, true, () -> made < 9_000);
     }
 
     private static void everyCall(TeaRegatta x, String book) {

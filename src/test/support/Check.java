@@ -12,7 +12,13 @@ final class Check {
     void sentence(String words, Runnable test) {
         int before = checked;
         sentence = "\"" + words + "\": ";
-        test.run();
+        try {
+            test.run();
+        } catch (RuntimeException | AssertionError e) {
+            // So that the sentences behind this one are looked at, too.
+            wrong++;
+            System.out.println(sentence + "stopped by " + e);
+        }
         if (checked == before) {
             wrong++;
             System.out.println(sentence + "no answer looked at");
